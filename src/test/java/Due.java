@@ -1,0 +1,58 @@
+/** Counts and prints the answers that are not as due; what the tests of the project share. */
+final class Due {
+    private final String test;
+    private int wrong = 0;
+    private int asked = 0;
+
+    Due(String test) {
+        this.test = test;
+    }
+
+    void is(String call, long got, long want) {
+        asked++;
+        if (got != want) {
+            wrong++;
+            if (wrong <= 20) {
+                System.out.println(test + ": " + call + " answered " + got + ", due is " + want);
+            }
+        }
+    }
+
+    void is(String call, boolean got, boolean want) {
+        is(call, got ? 1 : 0, want ? 1 : 0);
+    }
+
+    void end() {
+        System.out.println(test + ": " + asked + " answers, " + wrong + " wrong");
+        if (wrong != 0) {
+            System.exit(1);
+        }
+    }
+
+    /** Feeds a text of up to 400 signs: twenty at a time, the rest filled up with blanks and cut off again. */
+    static void feed(MockParcels x, String text) {
+        int length = text.length();
+        StringBuilder padded = new StringBuilder(text);
+        while (padded.length() % 20 != 0) {
+            padded.append(' ');
+        }
+        for (int i = 0; i < padded.length(); i += 20) {
+            x.feed(four(padded, i), four(padded, i + 4), four(padded, i + 8), four(padded, i + 12),
+                four(padded, i + 16));
+        }
+        x.end(length);
+    }
+
+    static int text(MockParcels x, int k, String text) {
+        feed(x, text);
+        return x.text(k);
+    }
+
+    private static int four(CharSequence text, int from) {
+        int v = 0;
+        for (int i = from; i < from + 4; i++) {
+            v = v << 8 | text.charAt(i) & 255;
+        }
+        return v;
+    }
+}
