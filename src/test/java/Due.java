@@ -29,7 +29,7 @@ final class Due {
         }
     }
 
-    /** Feeds a text of up to 400 signs: twenty at a time, the rest filled up with blanks and cut off again. */
+    /** Feeds a text of up to 400 signs to an empty TAPE: twenty at a time, the blanks behind it are cut off again. */
     static void feed(MockParcels x, String text) {
         int length = text.length();
         StringBuilder padded = new StringBuilder(text);
