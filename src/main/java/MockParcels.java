@@ -886,11 +886,13 @@ public final class MockParcels {
             lines = 0;
         }
 
-        void add(int code) {
+        /** Always true, for there are never more codes than signs on the TAPE. */
+        boolean add(int code) {
             if (size < TAPE) {
                 codes[size] = code;
                 size++;
             }
+            return true;
         }
 
         void addLine(int word, int middle) {
@@ -1641,7 +1643,15 @@ public final class MockParcels {
         private boolean parseCase(int open) {
             int opener = reader.token;
             if (opener != NOT && opener != '(') {
-                return parseComparison();
+                if (!parseSum()) {
+                    return false;
+                }
+                int sign = reader.token;
+                if (sign != '<' && sign != '=' && sign != '>') {
+                    return reader.refuse(MISPLACED);
+                }
+                reader.step();
+                return parseSum() && law.add(Law.FIRST_SIGN + sign);
             }
             if (open >= DEEPEST) {
                 return reader.refuse(TOO_MANY);
@@ -1650,27 +1660,7 @@ public final class MockParcels {
             if (opener == '(') {
                 return parseEither(open + 1) && reader.take(')');
             }
-            if (!parseCase(open + 1)) {
-                return false;
-            }
-            law.add(Law.FIRST_SIGN + NOT);
-            return true;
-        }
-
-        private boolean parseComparison() {
-            if (!parseSum()) {
-                return false;
-            }
-            int sign = reader.token;
-            if (sign != '<' && sign != '=' && sign != '>') {
-                return reader.refuse(MISPLACED);
-            }
-            reader.step();
-            if (!parseSum()) {
-                return false;
-            }
-            law.add(Law.FIRST_SIGN + sign);
-            return true;
+            return parseCase(open + 1) && law.add(Law.FIRST_SIGN + NOT);
         }
 
         /** E, with each T of it: a + or - waits till the T behind it is whole. */

@@ -14,6 +14,9 @@ public final class GoingBackTest {
         promise38Later();
         promise39();
         promise39All();
+        promise39Rows();
+        promise39Cast();
+        promise39Book();
         promise39Tape();
         DUE.end();
     }
@@ -256,6 +259,110 @@ public final class GoingBackTest {
         DUE.is("39: his debts", x.who(2, 3), 0);
         DUE.is("39: his things", x.who(2, 11), 0);
         DUE.is("39: the same days again", x.days(2), 2);
+    }
+
+    /** Rows that were told anew where others stood before, and those of parcels and bidders that were not yet. */
+    private static void promise39Rows() {
+        MockParcels x = new MockParcels();
+        x.image(true);
+        x.parcel(11, 3, 4);
+        x.bidder(70, 2, true);
+        x.length(10);
+        x.length(20);
+        x.coin(7);
+        x.put(30, 0);
+        x.put(20, 0);
+        x.clue(1, true);
+        x.police(10);
+        x.police(14);
+        x.image(false);
+        DUE.is("39: none", x.look(0) + x.look(1), 0);
+        x.parcel(55, 8, 9);
+        x.bidder(80, 5, false);
+        x.length(40);
+        x.length(50);
+        x.coin(9);
+        x.put(6, 1);
+        x.put(5, 1);
+        x.clue(1, false);
+        x.police(20);
+        x.police(25);
+        x.image(true);
+        x.length(-1);
+        x.length(1);
+        x.length(2);
+        x.coin(-1);
+        x.coin(1);
+        x.put(-1, 0);
+        x.put(1, 0);
+        x.put(1, 0);
+        x.clue(-1, true);
+        x.clue(1, true);
+        x.police(-1);
+        x.police(1);
+        x.police(2);
+        x.image(false);
+        int[] due = {55, 8, 9};
+        for (int what = 0; what < 3; what++) {
+            DUE.is("39: of a PARCEL", x.of(0, what), due[what]);
+        }
+        DUE.is("39: purse", x.who(0, 0), 80);
+        DUE.is("39: care", x.who(0, 1), 5);
+        DUE.is("39: no shill", x.who(0, 2), 0);
+        DUE.is("39: lengths", x.strings(90, 0), 1);
+        DUE.is("39: lengths", x.strings(90, 1), 0);
+        DUE.is("39: coins", x.pays(9, 0), 1);
+        DUE.is("39: puts", x.puts(0), 11);
+        DUE.is("39: puts", x.puts(1), 2);
+        DUE.is("39: clues", x.which(0), 0);
+        DUE.is("39: days", x.every(-1), 5);
+        DUE.is("39: days", x.every(0), 5);
+    }
+
+    /** Lines that were written over those of the image come back as they were. */
+    private static void promise39Book() {
+        MockParcels x = quay();
+        x.sell(0);
+        x.sell(1);
+        x.image(true);
+        long then = seen(x);
+        x.undo();
+        x.undo();
+        x.days(1);
+        x.sell(3);
+        x.sell(2);
+        DUE.is("39: other lines", x.book(1, 3) == 3 && x.book(3, 0) == 0 && x.look(8) > 6, true);
+        x.image(false);
+        DUE.is("39: the lines as they were", seen(x), then);
+        MockParcels y = quay();
+        y.sell(0);
+        y.sell(1);
+        DUE.is("39: the lines as they were", seen(y), then);
+    }
+
+    /** What is told behind the image does not reach into it. */
+    private static void promise39Cast() {
+        MockParcels x = new MockParcels();
+        x.parcel(11, 3, 4);
+        x.bidder(70, 2, true);
+        x.image(true);
+        MockParcels y = new MockParcels();
+        y.image(true);
+        y.parcel(22, 5, 6);
+        y.bidder(90, 4, false);
+        y.image(false);
+        y.parcel(11, 3, 4);
+        y.bidder(70, 2, true);
+        x.parcel(22, 5, 6);
+        x.bidder(90, 4, false);
+        x.image(false);
+        DUE.is("39: as if it had not been", seen(x), seen(y));
+        y.image(true);
+        y.parcel(22, 5, 6);
+        y.image(true);
+        y.image(false);
+        DUE.is("39: weight", y.of(1, 0), 22);
+        DUE.is("39: rattle", y.of(1, 1), 5);
     }
 
     private static void promise39Tape() {

@@ -7,6 +7,7 @@ public final class SellingTest {
 
     public static void main(String[] args) {
         promise6Draws();
+        promise6Edges();
         promise6Nobody();
         promise6Rounds();
         promise6Purse();
@@ -17,7 +18,9 @@ public final class SellingTest {
         promise9();
         promise10();
         promise10Lines();
+        promise10Shorter();
         promise10Police();
+        promise10LastKind();
         promise17();
         promise17Full();
         DUE.end();
@@ -56,6 +59,18 @@ public final class SellingTest {
         DUE.is("6: none such", x.sell(1), -1);
         DUE.is("6: none such", x.sell(-1), -1);
         DUE.is("6: none such", x.sell(Integer.MAX_VALUE), -1);
+    }
+
+    /** The first draw of 1000 from STATE 0 is 563. */
+    private static void promise6Edges() {
+        MockParcels x = new MockParcels();
+        x.bidder(50, 0, false);
+        x.parcel(1, 0, 0);
+        Due.text(x, 0, "bids 563 when round<1;bids 0;");
+        DUE.is("6: 563 is not below 563", x.sell(0), 0);
+        Due.text(x, 0, "bids 564 when round<1;bids 0;");
+        x.state(0);
+        DUE.is("6: 563 is below 564", x.sell(0), 1);
     }
 
     private static void promise6Nobody() {
@@ -307,6 +322,17 @@ public final class SellingTest {
         line(x, x.look(8) - 1, 2, 2, 0, 0);
     }
 
+    private static void promise10Shorter() {
+        MockParcels x = new MockParcels();
+        Due.text(x, 2, "on 0 wet 1;on 0 crowd 77;on 1 crowd 78;");
+        Due.text(x, 2, "on 1 wet 2;");
+        x.days(1);
+        DUE.is("10: lines that are no more", x.look(3) + x.look(4), 0);
+        x.days(1);
+        DUE.is("10: lines that are no more", x.look(3), 0);
+        DUE.is("10: the line that is", x.look(4), 2);
+    }
+
     private static void promise10Police() {
         MockParcels x = new MockParcels();
         x.bidder(9999, 0, false);
@@ -344,6 +370,37 @@ public final class SellingTest {
         line(x, lines + 1, 1, 3, 1, second);
         DUE.is("10: BOX", x.look(6), 2);
         DUE.is("10: no more than two lines", x.look(8), lines + 2);
+    }
+
+    /** KIND 7: the third draw must be the second one from STATE 0, so the first one must leave STATE 0 behind it. */
+    private static void promise10LastKind() {
+        MockParcels x = new MockParcels();
+        x.bidder(9, 0, false);
+        x.bidder(9, 9, false);
+        x.parcel(0, 0, 0);
+        Due.text(x, 0, "bids 1000 when care=0;bids 0;full 1000;");
+        Due.text(x, 1, "bidder 1 follows 0;");
+        Due.text(x, 2, "on 0 police;");
+        x.state(before(0));
+        x.sell(0);
+        DUE.is("6: KIND 7", x.of(0, 4), 7);
+        DUE.is("6: he has it", x.who(0, 17), 1);
+        Due.text(x, 0, "bids 10+has;");
+        DUE.is("15: it is one thing", x.of(0, 10), 11);
+        DUE.is("8: given", x.give(0, 1, 7), true);
+        x.days(1);
+        line(x, x.look(8) - 1, 0, 3, 1, 7);
+        DUE.is("10: BOX", x.look(6), 1);
+        DUE.is("10: taken", x.who(1, 17), 0);
+    }
+
+    /** The STATE from which one draw leads to another one. */
+    private static int before(int state) {
+        int inverse = 1;
+        for (int i = 0; i < 6; i++) {
+            inverse *= 2 - 1664525 * inverse;
+        }
+        return (state - 1013904223) * inverse;
     }
 
     private static void promise17() {

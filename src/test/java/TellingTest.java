@@ -169,6 +169,11 @@ public final class TellingTest {
             3);
         law(x, "bids 1 when not (1=1 and 1=2);step 4 when not not 1=1;full 3 when 1=2 or not 1<1;", 1, 4, 3);
         law(x, "bids 0-7/2+10;", 7, 2, 700);
+        law(x, "bids 1 when not 1=1;step 4 when not not not 1=1;full 3 when 1=1 and not 2=2;", 350, 2, 700);
+        law(x, "bids 1 when 1=1 and (1=2);step 4 when 1=2 or (1=2 or 1=2);full 3 when 1=2 and (1=1 or 1=1);", 350, 2,
+            700);
+        law(x, "bids 1 when (1=2) or not(1=1 and 2=2) or 3=3;step 4 when not(1=2 or 1=1) and 1=1;full 3 when 1=1 or "
+            + "1=1 and 1=2;", 1, 2, 3);
         law(x, "bids 4 when care<5;bids 5 when care=5;step 8 when care>5;full 6 when 5>care or care<5;", 5, 2, 700);
         law(x, "", 350, 2, 700);
     }

@@ -122,6 +122,16 @@ public final class TextsTest {
         good(x, 2, "on0sell1;on1wet9;on2crowd99;on3police;on4bill1 99;on999pay2 999;", 6);
         good(x, 0, "bids 1+2-3*4/5*6-weight*rattle when 1<2 and 2<3 or 3<4 and not not(4<5 or 5=5);", 1);
         bad(x, 0, "bidsX 5;", 1, 0);
+        bad(x, 0, "bidsA 5;", 1, 0);
+        bad(x, 0, "bidsZ 5;", 1, 0);
+        bad(x, 0, "bidsa 5;", 1, 0);
+        bad(x, 0, "bidsz 5;", 1, 0);
+        bad(x, 0, "bids@ 5;", 1, 4);
+        bad(x, 0, "bids[ 5;", 1, 4);
+        bad(x, 0, "bids` 5;", 1, 4);
+        bad(x, 0, "bids{ 5;", 1, 4);
+        bad(x, 0, "bids 5:", 1, 6);
+        bad(x, 0, "bids :;", 1, 5);
         bad(x, 0, "Bids 5;", 1, 0);
         bad(x, 0, "bid s 5;", 1, 0);
         bad(x, 0, "bids 00005;", 1, 5);

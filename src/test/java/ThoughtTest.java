@@ -192,6 +192,11 @@ public final class ThoughtTest {
         DUE.is("25: another what", x.pays(12, 2), -1);
         DUE.is("25: another what", x.pays(12, -1), -1);
         DUE.is("24: none is then", x.coin(-1), 0);
+        DUE.is("25: it can't be", x.pays(50, 0), -1);
+        DUE.is("24: told no more", x.coin(20), 1);
+        DUE.is("25: 20 20", x.pays(40, 1), 1);
+        DUE.is("25: no 4", x.pays(4, 1), 0);
+        x.coin(-1);
         for (int i = 1; i <= 6; i++) {
             x.coin(i);
         }
@@ -254,6 +259,10 @@ public final class ThoughtTest {
         DUE.is("28: BIDDER 0", x.wishes(10), 2);
         DUE.is("28: BIDDER 1", x.wishes(11), 1);
         DUE.is("28: nothing for nothing", x.wishes(12), 0);
+        Due.text(x, 3, "bidder 7 wants 7 for 99;bidder 0 wants 7 for 98;bidder 0 wants 6 for 1;");
+        DUE.is("28: 99 and 1", x.wishes(0), 100);
+        DUE.is("28: BIDDER 7", x.wishes(17), 7);
+        DUE.is("28: BIDDER 0", x.wishes(10), 6);
         Due.text(x, 3, "bidder 0 wants 5 for 10;bidder 1 wants 5 for 10;bidder 0 wants 6 for 10;bidder 1 wants 6 for 10;"
             + "bidder 2 wants 6 for 10;");
         DUE.is("28: 20", x.wishes(0), 20);
@@ -311,9 +320,14 @@ public final class ThoughtTest {
         DUE.is("32: another what", x.which(-1), -1);
         DUE.is("31: none is then", x.clue(-1, false), 0);
         DUE.is("32: all again", x.which(0), 65535);
+        DUE.is("32: none to be told apart", x.which(1), 0);
+        x.clue(3, true);
+        DUE.is("32: two", x.which(0), 3);
+        DUE.is("32: by one", x.which(1), 1);
         x.clue(3, true);
         x.clue(1, false);
         DUE.is("32: one", x.which(0), 2);
+        DUE.is("32: by two", x.which(1), 2);
         MockParcels y = new MockParcels();
         y.parcel(0, 0, 0);
         y.clue(65534, false);
@@ -449,6 +463,16 @@ public final class ThoughtTest {
                 x.length(v);
             }
             DUE.is("23: " + lengths + " of " + c, x.strings(c, 0), Brute.strings(lengths, c));
+            List<Integer> coins = new ArrayList<>();
+            for (int j = random.nextInt(7); j > 0; j--) {
+                int v = 1 + random.nextInt(50);
+                if (x.coin(v) != -1) {
+                    coins.add(v);
+                }
+            }
+            int n = random.nextInt(400);
+            DUE.is("25: fewest of " + coins + " for " + n, x.pays(n, 0), Brute.fewest(coins, n));
+            DUE.is("25: ways of " + coins + " for " + n, x.pays(n, 1), Brute.ways(coins, n));
             for (int j = random.nextInt(6); j > 0; j--) {
                 int knots = random.nextInt(10);
                 x.parcel(0, 0, knots);
