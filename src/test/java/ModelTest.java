@@ -302,7 +302,7 @@ public final class ModelTest {
             case 2 -> weekText();
             default -> wantsText();
         };
-        text = spoil(text);
+        text = r(25) == 0 ? noise() : spoil(text);
         if (text.length() > 400) {
             text = text.substring(0, 400);
         }
@@ -329,6 +329,17 @@ public final class ModelTest {
             same("feed", x.feed(v[0], v[1], v[2], v[3], v[4]), y.feed(v));
         }
         same("end", x.end(text.length()), y.end(text.length()));
+    }
+
+    /** Any bytes, or signs of the texts in any order. */
+    private String noise() {
+        String signs = "0123456789;+-*/()<=> \nbidsonfl";
+        boolean any = r(2) == 0;
+        StringBuilder t = new StringBuilder(r(3) == 0 ? "bids " : "");
+        for (int i = r(120); i > 0; i--) {
+            t.append(any ? (char) r(256) : signs.charAt(r(signs.length())));
+        }
+        return t.toString();
     }
 
     /** Now and then one sign or one word is put in, left out or changed. */
