@@ -1,3 +1,7 @@
+import java.util.List;
+import java.util.function.Supplier;
+import java.util.function.ToLongFunction;
+
 /** Counts and prints the answers that are not as due; what the tests of the project share. */
 final class Due {
     private final String test;
@@ -20,6 +24,23 @@ final class Due {
 
     void is(String call, boolean got, boolean want) {
         is(call, got ? 1 : 0, want ? 1 : 0);
+    }
+
+    void same(String call, List<String> got, List<String> want) {
+        for (int i = 0; i < got.size() && i < want.size(); i++) {
+            if (!got.get(i).equals(want.get(i))) {
+                is(call + ": " + got.get(i) + ", due is " + want.get(i) + ", row", i, -1);
+                return;
+            }
+        }
+        is(call + ": rows", got.size(), want.size());
+    }
+
+    /** A call that is made on one of two like objects: what it answers, and that both are alike then too. */
+    void changesNothing(String call, Supplier<MockParcels> made, ToLongFunction<MockParcels> act, long want) {
+        MockParcels x = made.get();
+        is(call, act.applyAsLong(x), want);
+        same(call + " changes nothing", Seen.all(x), Seen.all(made.get()));
     }
 
     void end() {
