@@ -486,6 +486,22 @@ public final class GoingBackEdgesTest {
             x.undo();
             x.undo();
         });
+        tellings.add(x -> {
+            x.length(-1);
+            x.coin(-1);
+            x.put(-1, 0);
+            x.clue(-1, true);
+            x.police(-1);
+            for (int i = 1; i <= 3; i++) {
+                x.length(11 * i);
+                x.coin(11 * i);
+                x.put(11 * i, 9);
+                x.clue(9 + i, true);
+                x.police(11 * i);
+                x.weighs(i, 11 * i);
+                x.rank(i, 70123456);
+            }
+        });
         MockParcels y = told();
         y.image(false);
         List<String> due = Seen.butTape(y);

@@ -378,6 +378,8 @@ public final class TellingEdgesTest {
         DUE.is("15: the last line of sixteen", x.of(0, 30), 5);
         Due.text(x, 0, "full 4;" + none.repeat(15));
         DUE.is("15: the first line of sixteen", x.of(0, 30), 4);
+        Due.text(x, 0, none.repeat(15) + "full 500-6*7+8*9/3 when (((1+2*3<9)));");
+        DUE.is("15: a long one behind fifteen others", x.of(0, 30), 482);
         Due.text(x, 0, "step 9;bids 8;full 7 when 1=1;full 6;bids 5;step 4;");
         DUE.is("15: full", x.of(0, 30), 7);
         DUE.is("15: bids", x.of(0, 10), 8);

@@ -42,6 +42,8 @@ public final class TextsEdgesTest {
         wantsBounds();
         lastOfSeveralWants();
         aTextOfFourHundred();
+        asManyTokens();
+        bytesBehindTheEnd();
         DUE.end();
     }
 
@@ -560,6 +562,10 @@ public final class TextsEdgesTest {
         DUE.is("13: towards 0", x.of(0, 10), 3);
         DUE.is("13: towards 0", x.of(0, 30), 0);
         DUE.is("13: from the left", x.of(0, 20), 9);
+        good(x, 0, "bids 77/1;full 9999/10;step 0/1;", 3);
+        DUE.is("13: by 1", x.of(0, 10), 77);
+        DUE.is("13: by 10", x.of(0, 30), 999);
+        DUE.is("13: 0 by 1", x.of(0, 20), 1);
         good(x, 0, "bids 100-7/2;full 9999/9999;step 2*7/4;", 3);
         DUE.is("13: a part alone", x.of(0, 10), 97);
         DUE.is("13: by the most", x.of(0, 30), 1);
@@ -575,15 +581,13 @@ public final class TextsEdgesTest {
             good(x, 0, "full " + texts[i] + ";", 1);
             DUE.is("13: " + texts[i], x.of(0, 30), values[i]);
         }
-        String yes = "1<2";
-        String no = "2<1";
         for (int bits = 0; bits < 8; bits++) {
             boolean a = (bits & 4) != 0;
             boolean b = (bits & 2) != 0;
             boolean c = (bits & 1) != 0;
-            String p = a ? yes : no;
-            String q = b ? yes : no;
-            String r = c ? yes : no;
+            String p = a ? "3>2" : "2>2";
+            String q = b ? "1<2" : "2<2";
+            String r = c ? "2=2" : "2=3";
             holds(p + " or " + q + " and " + r, a || b && c);
             holds(p + " and " + q + " or " + r, a && b || c);
             holds("(" + p + " or " + q + ")and " + r, (a || b) && c);
@@ -611,6 +615,10 @@ public final class TextsEdgesTest {
             holds(v + ">5", v > 5);
             holds("2+" + v + "<2*3+1", v + 2 < 7);
             holds("5>" + v, 5 > v);
+            holds("not " + v + ">5", v <= 5);
+            holds("not " + v + "=5", v != 5);
+            holds("not " + v + "<5", v >= 5);
+            holds("not not " + v + ">5", v > 5);
         }
     }
 
@@ -717,5 +725,42 @@ public final class TextsEdgesTest {
         DUE.is("13: so", x.of(0, 10), 5);
         good(x, 0, "bids 6 when 1=1" + " and 1=1".repeat(48) + ";", 1);
         DUE.is("13: so", x.of(0, 10), 6);
+    }
+
+    /** Each byte a token of its own; a word, a NUMBER up to the last byte there can be. */
+    private static void asManyTokens() {
+        for (String sign : new String[] {";", "(", "+", "#", "1;", "a1"}) {
+            String text = sign.repeat(400 / sign.length());
+            for (int k = 0; k < 4; k++) {
+                bad(quay(), k, text, 1, 0);
+            }
+        }
+        bad(quay(), 0, " ".repeat(397) + "bid", 1, 397);
+        bad(quay(), 0, " ".repeat(396) + "bids", 1, 400);
+        bad(quay(), 0, " ".repeat(395) + "bids1", 1, 400);
+        bad(quay(), 0, " ".repeat(391) + "bids 1234", 1, 400);
+        bad(quay(), 0, " ".repeat(390) + "bids 12345", 1, 395);
+        bad(quay(), 1, " ".repeat(392) + "bidder 0", 1, 400);
+        bad(quay(), 0, "x".repeat(400), 1, 0);
+        bad(quay(), 0, "1".repeat(400), 1, 0);
+        good(quay(), 0, " ".repeat(393) + "bids 1;", 1);
+    }
+
+    /** What was cut off the TAPE is no part of the text. */
+    private static void bytesBehindTheEnd() {
+        String[] fed = {"bidsx", "bids 12345", "bids 1234", "bids 5;;", "bids 5;bids 6;", "bids 5 when 1<2"};
+        int[] sizes = {4, 9, 8, 7, 7, 6};
+        int[] places = {4, 9, 8, -1, -1, 6};
+        for (int i = 0; i < fed.length; i++) {
+            MockParcels x = quay();
+            Due.feed(x, fed[i]);
+            DUE.is("12: " + sizes[i] + " of " + fed[i], x.end(sizes[i]), true);
+            DUE.is("13: " + sizes[i] + " of " + fed[i], x.text(0), places[i] == -1 ? 1 : -1);
+            DUE.is("14: its place", x.fault(1), places[i]);
+        }
+        MockParcels y = quay();
+        good(y, 0, "bids 5;step 7;full 8;", 3);
+        good(y, 0, "bids 6;", 1);
+        DUE.is("13: a shorter text", y.of(0, 20), 1);
     }
 }

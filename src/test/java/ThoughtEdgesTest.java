@@ -35,6 +35,9 @@ public final class ThoughtEdgesTest {
         rankDigits();
         swapsOfEight();
         swapsGoes();
+        swapsLater();
+        toldAnew();
+        likeNobodyElse();
         wishesBounds();
         wishesTies();
         putBounds();
@@ -197,6 +200,17 @@ public final class ThoughtEdgesTest {
         y.bidder(99, 0, true);
         // 1, 3, 4, 6, 7, 9, 10, 12: at 10 it is 500, at 12 no more.
         DUE.is("18: 500 at price 10", y.would(0, 1), 12);
+        MockParcels z = new MockParcels();
+        z.parcel(0, 0, 0);
+        z.bidder(99, 0, false);
+        z.bidder(99, 0, false);
+        DUE.is("18: 500 at price 10, 490 at price 11", z.would(0, 1), 11);
+        z.set(3, 0, 1);
+        z.set(3, 1, 1);
+        DUE.is("18: 500 at price 5, 490 at price 6", z.would(0, 1), 6);
+        z.set(3, 0, 2);
+        z.set(3, 1, 2);
+        DUE.is("18: 500 at price 0, 490 at price 1", z.would(0, 1), 1);
         DUE.is("18: the SHILL", y.would(0, 0), 1);
     }
 
@@ -558,6 +572,88 @@ public final class ThoughtEdgesTest {
             DUE.is("27: of pairs, " + b, y.swaps(b), due[b]);
         }
         DUE.is("27: four goes", y.swaps(-1), 4);
+    }
+
+    /** Number 0 does not go round at once, but later on. */
+    private static void swapsLater() {
+        MockParcels x = new MockParcels();
+        x.rank(0, 12034567);
+        x.rank(1, 10234567);
+        x.rank(2, 1234567);
+        DUE.is("27: 1 has its own", x.swaps(1), 1);
+        DUE.is("27: then 0 has 2", x.swaps(0), 2);
+        DUE.is("27: and 2 has 0", x.swaps(2), 0);
+        DUE.is("27: 3 to 7 one by one", x.swaps(-1), 7);
+        // Only the last one goes round at first, and 0 is the last to go.
+        int[] down = {76543210, 76543210, 76543210, 76543210, 76543210, 76543210, 76543210, 76543210};
+        for (int b = 0; b < 8; b++) {
+            x.rank(b, down[b]);
+        }
+        for (int b = 0; b < 8; b++) {
+            DUE.is("27: its own, " + b, x.swaps(b), b);
+        }
+        DUE.is("27: eight goes", x.swaps(-1), 8);
+    }
+
+    /** "(NONE: none is then)": of those told before nothing is left, though fewer are told then. */
+    private static void toldAnew() {
+        MockParcels x = quay(0, 3, "");
+        for (int i = 0; i < 5; i++) {
+            x.length(60 - i);
+            x.coin(1 + i);
+            x.put(50 + i, i);
+            x.clue(2, i % 2 == 0);
+            x.police(10 + 3 * i);
+        }
+        x.length(-1);
+        x.coin(-1);
+        x.put(-1, 0);
+        x.clue(-1, true);
+        x.police(-1);
+        x.length(20);
+        x.coin(7);
+        x.put(9, 1);
+        x.clue(3, true);
+        x.police(500);
+        DUE.is("23: one of 20", x.strings(20, 0), 1);
+        DUE.is("23: nothing is left over", x.strings(20, 1), 0);
+        DUE.is("25: sevens alone", x.pays(8, 0), -1);
+        DUE.is("25: two sevens in one way", x.pays(14, 1), 1);
+        DUE.is("30: 9", x.puts(0), 9);
+        DUE.is("30: one", x.puts(1), 1);
+        DUE.is("32: two", x.which(0), 3);
+        DUE.is("32: by one", x.which(1), 1);
+        DUE.is("34: one told", x.every(-1), 0);
+    }
+
+    /** THE IMAGE of fewer BIDDERS and PARCELS is gone back to: none of those there were are reckoned with. */
+    private static void likeNobodyElse() {
+        MockParcels x = quay(2, 2, "bids 1000;step 5;");
+        x.image(true);
+        for (int b = 2; b < 8; b++) {
+            x.bidder(9999, b, false);
+        }
+        for (int p = 2; p < 16; p++) {
+            x.parcel(p, 9, 7);
+        }
+        x.clue(65535, true);
+        Due.text(x, 3, "bidder 1 wants 1 for 50;bidder 2 wants 2 for 60;bidder 7 wants 3 for 70;");
+        DUE.is("28: of eight", x.wishes(0), 180);
+        DUE.is("36: of eight", x.halves(0), 0);
+        DUE.is("37: of sixteen", x.game(0), -1);
+        x.image(false);
+        DUE.is("28: nobody wants anything", x.wishes(0), 0);
+        DUE.is("28: nor has", x.wishes(10), 0);
+        DUE.is("28: none such", x.wishes(12), -1);
+        Due.text(x, 3, "bidder 1 wants 1 for 50;");
+        DUE.is("28: of two", x.wishes(0), 50);
+        DUE.is("28: BIDDER 1", x.wishes(11), 1);
+        DUE.is("36: of two", x.halves(0), 0);
+        DUE.is("36: of two", x.halves(1), 1);
+        DUE.is("32: of two", x.which(0), 3);
+        DUE.is("37: no knots", x.game(0), -1);
+        DUE.is("40: not SOLD", x.look(7), 3);
+        DUE.is("18: two bid", x.would(0, 1), 100);
     }
 
     /** "0 together, 10 + b the KIND of BIDDER b. NONE if there is none such, or another what". */
