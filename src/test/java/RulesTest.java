@@ -1,4 +1,3 @@
-import com.sun.source.tree.AssertTree;
 import com.sun.source.tree.BinaryTree;
 import com.sun.source.tree.BlockTree;
 import com.sun.source.tree.ClassTree;
@@ -7,15 +6,10 @@ import com.sun.source.tree.DoWhileLoopTree;
 import com.sun.source.tree.EnhancedForLoopTree;
 import com.sun.source.tree.ExpressionTree;
 import com.sun.source.tree.ForLoopTree;
-import com.sun.source.tree.LambdaExpressionTree;
-import com.sun.source.tree.MemberReferenceTree;
 import com.sun.source.tree.MethodInvocationTree;
 import com.sun.source.tree.MethodTree;
 import com.sun.source.tree.NewClassTree;
-import com.sun.source.tree.SynchronizedTree;
-import com.sun.source.tree.ThrowTree;
 import com.sun.source.tree.Tree;
-import com.sun.source.tree.TryTree;
 import com.sun.source.tree.VariableTree;
 import com.sun.source.tree.WhileLoopTree;
 import com.sun.source.util.JavacTask;
@@ -48,6 +42,8 @@ public final class RulesTest extends TreePathScanner<Void, Void> {
     private static final Set<String> LIBRARY = Set.of("java.lang.String.length", "java.lang.String.charAt",
         "java.lang.String.indexOf", "java.lang.Math.max", "java.lang.Math.min", "java.lang.Math.abs",
         "java.lang.Math.floorMod", "java.lang.Integer.bitCount");
+    private static final Set<Tree.Kind> FORBIDDEN = Set.of(Tree.Kind.LAMBDA_EXPRESSION, Tree.Kind.MEMBER_REFERENCE,
+        Tree.Kind.THROW, Tree.Kind.TRY, Tree.Kind.SYNCHRONIZED, Tree.Kind.ASSERT);
     // These two carry how many ( and not are open, and go no deeper than eight.
     private static final Set<String> RECURSIVE = Set.of("Parser.parseCase", "Parser.parseEither");
 
@@ -115,8 +111,12 @@ public final class RulesTest extends TreePathScanner<Void, Void> {
         return best;
     }
 
-    private void forbidden(Tree tree) {
-        DUE.is("rules 2 and 6 leave it out: " + tree, true, false);
+    @Override
+    public Void scan(Tree tree, Void none) {
+        if (tree != null && FORBIDDEN.contains(tree.getKind())) {
+            DUE.is("rules 2 and 6 leave it out: " + tree, true, false);
+        }
+        return super.scan(tree, none);
     }
 
     @Override
@@ -261,41 +261,5 @@ public final class RulesTest extends TreePathScanner<Void, Void> {
             DUE.is("a divisor is looked at: " + tree, constant || looked, true);
         }
         return super.visitBinary(tree, none);
-    }
-
-    @Override
-    public Void visitLambdaExpression(LambdaExpressionTree tree, Void none) {
-        forbidden(tree);
-        return super.visitLambdaExpression(tree, none);
-    }
-
-    @Override
-    public Void visitMemberReference(MemberReferenceTree tree, Void none) {
-        forbidden(tree);
-        return super.visitMemberReference(tree, none);
-    }
-
-    @Override
-    public Void visitThrow(ThrowTree tree, Void none) {
-        forbidden(tree);
-        return super.visitThrow(tree, none);
-    }
-
-    @Override
-    public Void visitTry(TryTree tree, Void none) {
-        forbidden(tree);
-        return super.visitTry(tree, none);
-    }
-
-    @Override
-    public Void visitSynchronized(SynchronizedTree tree, Void none) {
-        forbidden(tree);
-        return super.visitSynchronized(tree, none);
-    }
-
-    @Override
-    public Void visitAssert(AssertTree tree, Void none) {
-        forbidden(tree);
-        return super.visitAssert(tree, none);
     }
 }
